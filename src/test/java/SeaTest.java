@@ -244,6 +244,8 @@ public final class SeaTest {
         due("learn(2, 1)", x.learn(2, 1), 1);
         due("learn(3, 2)", x.learn(3, 2), 1);
         due("which", x.square(8, 2), 1);
+        due("learn(0, 0)", new HeWreckedHimself().learn(0, 0), 1);
+        due("learn(2, 0)", new HeWreckedHimself().learn(2, 0), 6);
         due("learn(-1, -1)", x.learn(-1, -1), -2);
         due("learn(6, 0)", x.learn(6, 0), -2);
         due("learn(0, -1)", x.learn(0, -1), -4);

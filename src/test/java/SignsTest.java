@@ -80,6 +80,9 @@ public final class SignsTest {
         due("35 away", x.known(0, 35), 60);
         due("days, 40 at most", x.lie(0, 35), 36);
         due("bread, 40 at most", x.lie(1, 35), 39);
+        x = Checks.told("vf0035;vs0610;vs1923;vs3034;l35359;");
+        due("40 away", x.known(0, 35), 40);
+        due("a lie of 40 days", x.lie(0, 0), 40);
     }
 
     private static void promise21() {
@@ -148,6 +151,9 @@ public final class SignsTest {
         x = Checks.told("ks35;l00350;l04041;l09091;l29291;l34341;l01011;");
         due("sand, too", x.hide(0), 4);
         due("sand, too", x.hide(1), 1);
+        x = Checks.told("h35;ks01;ks06;ks04;ks11;l01040;l06340;");
+        due("square 0 is like 5", x.hide(0), 0);
+        due("square 0 is like 5", x.hide(1), 1);
         x = Checks.told("vs0135;l00350;l14151;l20221;");
         due("no days are alike", x.hide(1), 4);
         due("no days are alike", x.hide(0), 14);

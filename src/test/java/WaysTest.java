@@ -55,6 +55,8 @@ public final class WaysTest {
         due("left before down", x.way(5, 30), 1);
         due("right before down", x.way(0, 35), 2);
         due("down", x.way(0, 30), 3);
+        due("one square on", x.way(0, 1), 2);
+        due("one square up", x.way(6, 0), 0);
         due("none to itself", x.way(3, 3), -9);
         for (int no : NO_SQUARES) {
             due("way from none", x.way(no, 0), -1);
@@ -77,6 +79,8 @@ public final class WaysTest {
         due("a turn in it", x.shake(7), 3);
         due("led by it", x.led(7), 1);
         due("straight on is no turn", x.shake(2), 5);
+        due("up out of fog", Checks.told("kf07;").shake(1), 1 + 2 + 1);
+        due("up into fog", Checks.told("h12;kf06;").shake(7), 2 + 1);
         due("back is one", x.shake(0), 3);
         due("led back", x.led(0), 3);
         for (int no : NO_SQUARES) {
@@ -171,6 +175,9 @@ public final class WaysTest {
         x.turnTo(6, 1);
         due("who can't be come to does not count", x.mean(0), 3);
         due("who can't be come to does not count", x.mean(1), 10);
+        Checks.tell(x, "l00350;l02021;");
+        due("2 alone by 1", x.mean(0), 2);
+        due("2 alone by 1", x.mean(1), 1);
         Checks.tell(x, "l00350;l06069;");
         due("none can be come to", x.mean(0), 0);
         due("none can be come to", x.mean(1), 1);
@@ -270,6 +277,9 @@ public final class WaysTest {
         due("lots(21, 0, 9)", x.lots(21, 0, 9), -6);
         due("lots(20, 0, 2)", x.lots(20, 0, 2), -2);
         due("lots(20, 0, -1)", x.lots(20, 0, -1), -2);
+        Checks.tell(x, "l00350;l00001;");
+        due("home by a weight of 1", x.lots(20, 3, 0), 0);
+        due("home by a weight of 1", x.lots(20, 3, 1), 0);
         Checks.tell(x, "l00350;l06069;");
         due("one square", x.lots(20, -5, 0), 20);
         due("one square", x.lots(20, -5, 1), 1);
